@@ -33,6 +33,21 @@ final class Check {
         }
     }
 
+    void same(String call, String got, String want) {
+        calls++;
+        if (!got.equals(want)) {
+            wrong++;
+            System.out.println(title + ": " + call + " left behind " + got + "\n  due is " + want);
+        }
+    }
+
+    static void fill(TideMen x, int s, int form, int... items) {
+        x.sheet(s, form, items.length);
+        for (int i = 0; i < items.length; i++) {
+            x.put(s, form, i, items[i]);
+        }
+    }
+
     static TideMen town(String sailors, String houses, String ships) {
         TideMen x = new TideMen();
         type(x, 0, sailors);

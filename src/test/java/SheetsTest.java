@@ -190,12 +190,12 @@ public final class SheetsTest {
 
     // tides on days 9 and 20, so that each day named in the digest has a neighbour that would tell other things
     private static void digestingMuch() {
-        TideMen x = Check.town("a501;a401;t215;s910;d350;a000", "13;32;51", "09110;09121;20992");
-        check.due("ask(8)", x.ask(8), 0);
-        check.due("ask(9)", x.ask(9), 1);
         for (int many = 0; many < 3; many++) {
+            TideMen x = Check.town("a501;a401;t215;s910;d350;a000", "13;32;51", "09110;09121;20992");
+            check.due("ask(8)", x.ask(8), 0);
+            check.due("ask(9)", x.ask(9), 1);
+            for (int n = 0; n < many; n++) x.seen(9, 0, x.takes(9, 0, 0) + n);
             check.due("digest() with " + many + " seen", x.digest(), digestFrom(x));
-            x.seen(9, 0, x.takes(9, 0, 0) + many);
         }
     }
 
