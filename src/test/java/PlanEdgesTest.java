@@ -234,6 +234,8 @@ public final class PlanEdgesTest {
         // as many ships as there are men: whichever stays away, the least thirsty one is left
         leaveIs("one of three", Check.town("a200;a100;a000", "13", "05100;06100;07100"), 2, 1, 0, NONE);
         leaveIs("two of four", Check.town("a200;a100;a000", "13", "05100;06100;07100;08100"), 2, 2, 0, 1);
+        // without 1 and 2 the tailor stands ahead of him at ships 0 and 3, but 0 and 3 is the lesser row
+        leaveIs("0 and 3, not 1 and 2", Check.town("a200;t500;a500", "19", "04101;03100;03100;04201"), 0, 2, 0, 3);
         leaveIs("the row is in order, whatever the days", Check.town("a000", "11", "09100;05100"), 0, 2, 0, 1);
     }
 

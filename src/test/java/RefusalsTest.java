@@ -5,7 +5,8 @@
  */
 public final class RefusalsTest {
     private static final Check check = new Check("RefusalsTest");
-    private static final int BAD = -2, NOT = -3, FULL = -4, NULL = -11, INDEX = -12, CAST = -13, STORE = -14, SIZE = -15;
+    private static final int BAD = -2, NOT = -3, FULL = -4;
+    private static final int NULL = -11, INDEX = -12, CAST = -13, STORE = -14, SIZE = -15;
     private static final int LEAST = Integer.MIN_VALUE, MOST = Integer.MAX_VALUE;
     private static final long BAD_LONG = Long.MIN_VALUE + 2;
     private static final int NEW = 0, SOME = 1, FILLED = 2;

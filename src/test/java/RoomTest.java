@@ -24,7 +24,8 @@ public final class RoomTest {
     }
 
     private static TideMen town() {
-        TideMen x = Check.town("a300;s911;t210;d591;a000;a190;t992;s013", "13;22;31", "05251;12390;12121;20950;28111;29999");
+        TideMen x = Check.town("a300;s911;t210;d591;a000;a190;t992;s013", "13;22;31",
+            "05251;12390;12121;20950;28111;29999");
         x.seen(20, 0, 30);
         return x;
     }

@@ -1,4 +1,6 @@
 import java.math.BigInteger;
+import java.util.ArrayList;
+import java.util.List;
 
 /** Promises 29 to 36, at their edges: above each test stands the sentence of the document that it looks at. */
 public final class SheetEdgesTest {
@@ -41,6 +43,8 @@ public final class SheetEdgesTest {
         latestFinding();
         digestOfNothing();
         digestWraps();
+        digestOfItsDays();
+        digestOfEachThing();
         check.end();
     }
 
@@ -241,7 +245,8 @@ public final class SheetEdgesTest {
 
     // get(): "BAD: the least int; so are NULL, CAST, INDEX (count() 8 tells)": the first that fits
     private static void gettingRefused() {
-        int[][] rows = {{0, 3, 9, 0}, {4, 1, 0, 0}, {1, 0, 9, 1}, {0, 0, 9, 3}, {0, 2, 0, 3}, {0, 1, 2, 2}, {0, 1, -1, 2}};
+        int[][] rows = {{0, 3, 9, 0}, {4, 1, 0, 0}, {1, 0, 9, 1}, {0, 0, 9, 3}, {0, 2, 0, 3}, {0, 1, 2, 2},
+            {0, 1, -1, 2}};
         for (int[] r : rows) {
             TideMen x = new TideMen();
             Check.fill(x, 0, 1, 5, 6);
@@ -471,7 +476,8 @@ public final class SheetEdgesTest {
         int[] due = {3, 2, 1, 14, 5, 5, 1, 1, 1};
         for (int what = 0; what < 9; what++) check.due("count(" + what + ")", x.count(what), due[what]);
         for (int what : new int[] {-1, 9, LEAST, MOST}) check.due("count(" + what + ")", x.count(what), BAD);
-        TideMen y = Check.town("d000;d000;d000;d000;d000;d000;d000;d000", "11;11;11;11;11;11;11;19", "29900;00900;29900");
+        TideMen y = Check.town("d000;d000;d000;d000;d000;d000;d000;d000", "11;11;11;11;11;11;11;19",
+            "29900;00900;29900");
         check.due("SAILORS that SAIL: one", y.count(6), 1);
         y.wipe(1);
         Check.type(y, 1, "19");
@@ -528,5 +534,67 @@ public final class SheetEdgesTest {
             1, 1, 0, 1, 0, 1, 0, 0, 0,
             0, 1, 9, 1, 1, 1, 0, 0, 1, 1,
             0, 0, -1, 1, 0, 0, 0));
+    }
+
+    private static void tell(List<Long> told, long... more) {
+        for (long m : more) told.add(m);
+    }
+
+    private static long digestFrom(TideMen x) {
+        List<Long> told = new ArrayList<>();
+        for (int what = 0; what <= 7; what++) tell(told, x.count(what));
+        for (int text = 0; text < 3; text++) tell(told, x.fault(text));
+        int men = x.count(0), inns = x.count(1), fleet = x.count(2);
+        for (int it = 0; it < men; it++) {
+            tell(told, x.sailor(it, 0), x.sailor(it, 1), x.sailor(it, 2), x.sailor(it, 3));
+            tell(told, x.owes(9, it), x.owes(29, it), x.purse(9, it), x.where(9, it), x.where(29, it));
+            tell(told, x.lodge(it, 0), x.lodge(it, 1), x.leave(it, -1), x.leave(it, 0), x.was(it, 0), x.was(it, 1));
+            tell(told, x.storm(5, it, 20, 0), x.storm(5, it, 20, 1));
+        }
+        for (int it = 0; it < inns; it++) {
+            tell(told, x.house(it, 0), x.house(it, 1), x.takes(9, it, 0), x.takes(9, it, 1), x.takes(29, it, 0));
+            tell(told, x.takes(29, it, 1), x.price(it, 0), x.price(it, 1), x.port(7, it));
+        }
+        for (int it = 0; it < fleet; it++) {
+            tell(told, x.ship(it, 0), x.ship(it, 1), x.ship(it, 2), x.ship(it, 3), x.crew(it, 0), x.crew(it, 1));
+            tell(told, x.crew(it, 2), x.crew(it, 3), x.crew(it, 4), x.look(it));
+        }
+        tell(told, x.richest(9), x.richest(29), x.last(), x.never(), x.ask(9), x.ask(29), x.port(7, -1));
+        long[] row = new long[told.size()];
+        for (int i = 0; i < row.length; i++) row[i] = told.get(i);
+        return wrapped(row);
+    }
+
+    private static void digestIsOf(String men, String inns, String fleet) {
+        for (int many = 0; many < 2; many++) {
+            TideMen x = Check.town(men, inns, fleet);
+            if (many == 1) x.seen(9, 0, Math.max(0, Math.min(999, x.takes(9, 0, 0))));
+            String town = men + " " + inns + " " + fleet + " with " + many + " seen";
+            check.due("digest() of " + town, x.digest(), digestFrom(x));
+        }
+    }
+
+    // digest(): "owes(9, it), owes(29, it), purse(9, it), .. storm(5, it, 20) .. richest(9), richest(29) .. ask(9),
+    // ask(29), port(7, NONE)": towns in which the days and the seeds on both sides of these tell other things
+    private static void digestOfItsDays() {
+        digestIsOf("s190;a501;t300;a020;d030;a900", "12;23;31", "10110;21120;29130;09140;20150");
+        for (String day : new String[] {"09", "10", "20", "21", "29"}) {
+            digestIsOf("a010;a001", "11;11", day + "190");
+            digestIsOf("a000;a001", "11;21", day + "110;" + day + "120");
+            digestIsOf("a000;s090;t000", "13", day + "190");
+        }
+        digestIsOf("a000;a000;a000;a000", "11;11", "29900");
+        digestIsOf("a000;a000;a000;a000", "11;11;11", "29900");
+        digestIsOf("a000;a000;a000;a000;a000", "11;11;11;11;11", "29900");
+    }
+
+    // digest(): "of each thing all that is told of it, then of the next one": none of a kind, one, and all
+    private static void digestOfEachThing() {
+        digestIsOf("a000", "", "");
+        digestIsOf("", "11", "");
+        digestIsOf("", "", "05110");
+        digestIsOf("a000;a001", "11;21", "");
+        digestIsOf("a300;s911;t212;d593;a104;a095;t906;d007", "11;22;33;14;25;36;47;98",
+            "05251;12390;12121;00909;29990;20310");
     }
 }

@@ -10,8 +10,9 @@ public final class UseTest {
     private static final Call[] ASKING = {
         x -> x.fault(0), x -> x.sailor(3, 0), x -> x.house(1, 0), x -> x.ship(2, 0), x -> x.owes(29, 3),
         x -> x.purse(29, 1), x -> x.where(29, 0), x -> x.takes(29, 0, 0), x -> x.takes(29, 0, 1), x -> x.crew(0, 0),
-        x -> x.richest(29), x -> x.last(), x -> x.price(0, 0), x -> x.price(1, 1), x -> x.lodge(0, 0), x -> x.lodge(2, 1),
-        x -> x.look(1), x -> x.leave(0, -1), x -> x.leave(4, 0), x -> x.never(), x -> x.was(0, 0), x -> x.was(2, 1),
+        x -> x.richest(29), x -> x.last(), x -> x.price(0, 0), x -> x.price(1, 1), x -> x.lodge(0, 0),
+        x -> x.lodge(2, 1), x -> x.look(1), x -> x.leave(0, -1), x -> x.leave(4, 0), x -> x.never(),
+        x -> x.was(0, 0), x -> x.was(2, 1),
         x -> x.ask(29), x -> x.storm(5, 0, 20, 0), x -> x.storm(16, 4, 29, 1), x -> x.port(7, 0), x -> x.port(-7, -1),
         x -> x.get(0, 2, 1), x -> x.count(6), x -> x.count(8), x -> x.digest()};
 
