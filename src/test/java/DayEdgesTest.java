@@ -170,6 +170,13 @@ public final class DayEdgesTest {
         check.due("house 6 of seven", Check.town("a006", seven, "").where(0, 0), 6);
         check.due("house 0 of none", Check.town("a000", "", "").where(29, 0), NONE);
         check.due("house 1 of one", Check.town("a001", "19", "").where(29, 0), NONE);
+        TideMen x = Check.town("a007;a001", seven + ";11", "29900");
+        check.due("both sail", x.count(6), 2);
+        x.wipe(1);
+        Check.type(x, 1, "19");
+        check.due("house 7, that was there once", x.where(0, 0), NONE);
+        check.due("house 1, that was there once", x.where(0, 1), NONE);
+        check.due("nobody sails", x.count(6), 0);
     }
 
     // "others are NOWHERE": these pay nothing, and no ship takes them, dead ones neither

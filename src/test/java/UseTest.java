@@ -26,6 +26,7 @@ public final class UseTest {
         askingChangesNothing();
         askingTwiceAnswersAlike();
         changesAreSeenAtOnce();
+        nothingIsLeftOfLongerTexts();
         check.end();
     }
 
@@ -92,5 +93,19 @@ public final class UseTest {
                 check.same("question " + i + ", then change " + c, State.of(x), told);
             }
         }
+    }
+
+    // sailors, houses and ships that were there once are there no more, in no plan either
+    private static void nothingIsLeftOfLongerTexts() {
+        String[] texts = {"a003;s911;t210;d597", "13;22", "05251;12390"};
+        String due = State.of(Check.town(texts[0], texts[1], texts[2]));
+        TideMen x = Check.town("d590;d591;d592;d593;a904;a905;a906;a907", "99;99;99;99;99;99;99;99",
+            "00990;01990;02990;03990;04990;29990");
+        x.digest();
+        for (int text = 0; text < 3; text++) {
+            x.wipe(text);
+            Check.type(x, text, texts[text]);
+        }
+        check.same("texts typed anew", State.of(x), due);
     }
 }
