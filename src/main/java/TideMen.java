@@ -9,10 +9,8 @@ public final class TideMen {
     private static final int LOST = -1, FLEETS = 1 << FLEET, SIXTEENTHS = 16, MOST_LEFT = 2;
 
     private final Text[] texts = new Text[TEXTS];
-    private final Town town = new Town();
-    private final Days days = new Days(town);
-    private final Town otherTown = new Town();
-    private final Days otherDays = new Days(otherTown);
+    private final Days days = new Days(), otherDays = new Days();
+    private final Town town = days.town, otherTown = otherDays.town;
     private final int[] fates = new int[FLEETS * MEN];
     private final int[] answers = new int[FLEET * INNS];
     private final Sightings sightings = new Sightings();
@@ -29,7 +27,11 @@ public final class TideMen {
         }
     }
 
-    /** A text as it is typed. Its room ends with its last possible item, so no ninth (or seventh) can begin. */
+    /**
+     * A text as it is typed. Its room ends with its last possible item, so no ninth (or seventh) can begin.
+     * The shape of an item has a letter for each byte: k a kind, f a figure, h a house, n a figure above 0, d tens of
+     * days.
+     */
     private static final class Text {
         final String shape;
         final char[] bytes;
@@ -69,13 +71,12 @@ public final class TideMen {
         }
 
         private static boolean fits(char sign, char b) {
-            switch (sign) {
-                case 'k': return kindOf(b) != NONE;
-                case 'h': return b >= '0' && b <= '7';
-                case 'n': return b >= '1' && b <= '9';
-                case 'd': return b >= '0' && b <= '2';
-                default: return b >= '0' && b <= '9';
+            if (sign == 'k') {
+                return kindOf(b) != NONE;
             }
+            char least = sign == 'n' ? '1' : '0';
+            char most = sign == 'h' ? '7' : sign == 'd' ? '2' : '9';
+            return b >= least && b <= most;
         }
 
         static int kindOf(char b) {
@@ -157,17 +158,13 @@ public final class TideMen {
 
     /** The month as it goes in a town: how things stand now, and how they stood behind each day. */
     private static final class Days {
-        final Town town;
+        final Town town = new Town();
         final int[] debt = new int[MEN], held = new int[MEN], place = new int[MEN], sailedOn = new int[MEN];
         final int[] income = new int[INNS], freeBeds = new int[INNS];
         final int[] taken = new int[FLEET], ashore = new int[FLEET], aboard = new int[FLEET];
         final int[] debtBehind = new int[MONTH * MEN], heldBehind = new int[MONTH * MEN];
         final int[] placeBehind = new int[MONTH * MEN], incomeBehind = new int[MONTH * INNS];
         int lastAboard = NONE;
-
-        Days(Town town) {
-            this.town = town;
-        }
 
         void run() {
             begin();

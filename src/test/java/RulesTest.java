@@ -6,7 +6,10 @@ import java.nio.charset.StandardCharsets;
 import java.nio.file.Files;
 import java.nio.file.Path;
 import java.util.Arrays;
+import java.util.HashSet;
+import java.util.Map;
 import java.util.Set;
+import java.util.TreeMap;
 import java.util.TreeSet;
 import java.util.regex.Matcher;
 import java.util.regex.Pattern;
@@ -24,6 +27,8 @@ public final class RulesTest {
     public static void main(String[] args) throws Exception {
         face();
         words();
+        limits();
+        depth();
         check.due("NONE", TideMen.NONE, -1);
         check.due("BAD", TideMen.BAD, -2);
         check.due("NOT", TideMen.NOT, -3);
@@ -53,7 +58,8 @@ public final class RulesTest {
         for (Field f : TideMen.class.getDeclaredFields()) {
             boolean isTold = Arrays.asList("NONE", "BAD", "NOT", "FULL").contains(f.getName());
             isTrue(f + " is open or hidden as it should be", isTold == !Modifier.isPrivate(f.getModifiers()));
-            isTrue(f + " if static is final", !Modifier.isStatic(f.getModifiers()) || Modifier.isFinal(f.getModifiers()));
+            boolean isStatic = Modifier.isStatic(f.getModifiers());
+            isTrue(f + " if static is final", !isStatic || Modifier.isFinal(f.getModifiers()));
         }
         for (Constructor<?> c : TideMen.class.getDeclaredConstructors()) {
             isTrue(c + " is the only one", c.getParameterCount() == 0 && Modifier.isPublic(c.getModifiers()));
@@ -64,15 +70,61 @@ public final class RulesTest {
         isTrue("TideMen is final", Modifier.isFinal(TideMen.class.getModifiers()));
     }
 
-    private static void words() throws Exception {
+    private static String code() throws Exception {
         String all = Files.readString(Path.of("src/main/java/TideMen.java"), StandardCharsets.ISO_8859_1);
-        String code = all.replaceAll("(?s)/\\*.*?\\*/", "").replaceAll("//[^\n]*", "");
+        return all.replaceAll("(?s)/\\*.*?\\*/", "").replaceAll("//[^\n]*", "");
+    }
+
+    private static void words() throws Exception {
         Matcher word = Pattern.compile("\\b(throw|throws|try|catch|finally|synchronized|assert|import|package|var"
             + "|yield|native|volatile|transient|Exact|System\\.(out|err|nanoTime|currentTimeMillis)|Thread|Object"
-            + "|hashCode|float|double)\\b|->|::|Exact\\(|@|[^\\x0a\\x20-\\x7e]").matcher(code);
+            + "|hashCode|float|double)\\b|->|::|Exact\\(|@|[^\\x0a\\x20-\\x7e]").matcher(code());
         while (word.find()) {
             isTrue("a word that is ruled out: " + word.group(), false);
         }
+    }
+
+    // LANGUAGE.md 11
+    private static void limits() {
+        Set<Class<?>> classes = new HashSet<>(Arrays.asList(TideMen.class.getDeclaredClasses()));
+        classes.add(TideMen.class);
+        isTrue("at most 12 classes: " + classes.size(), classes.size() <= 12);
+        for (Class<?> c : classes) {
+            int fields = 0;
+            for (Field f : c.getDeclaredFields()) fields += Modifier.isStatic(f.getModifiers()) ? 0 : 1;
+            isTrue(c + " has at most 20 fields: " + fields, fields <= 20);
+            for (Method m : c.getDeclaredMethods()) isTrue(m + " takes at most 7", m.getParameterCount() <= 7);
+        }
+    }
+
+    // LANGUAGE.md 11, read off the source: a method is known by its name, which no two of the file share
+    private static void depth() throws Exception {
+        Map<String, String> bodies = new TreeMap<>();
+        String method = "(?ms)^( {4}| {8})(?:[\\w\\[\\]]+ )+(\\w+)\\([^()]*\\) \\{\n(.*?)^\\1\\}";
+        Matcher m = Pattern.compile(method).matcher(code());
+        while (m.find()) {
+            isTrue(m.group(2) + " is the only one of its name", bodies.put(m.group(2), m.group(3)) == null);
+            isTrue(m.group(2) + " has at most 60 lines", m.group(3).split("\n").length <= 60);
+        }
+        for (Class<?> c : TideMen.class.getDeclaredClasses()) {
+            for (Method n : c.getDeclaredMethods()) isTrue(n + " was read", bodies.containsKey(n.getName()));
+        }
+        for (Method n : TideMen.class.getDeclaredMethods()) isTrue(n + " was read", bodies.containsKey(n.getName()));
+        for (String name : bodies.keySet()) {
+            int levels = levelsOf(name, bodies, 1);
+            isTrue("calls from " + name + " go at most eight deep: " + levels, levels <= 8);
+        }
+    }
+
+    private static int levelsOf(String name, Map<String, String> bodies, int open) {
+        int most = 1;
+        Matcher call = Pattern.compile("\\b(\\w+)\\(").matcher(bodies.get(name));
+        while (open < 20 && call.find()) {
+            if (bodies.containsKey(call.group(1))) {
+                most = Math.max(most, 1 + levelsOf(call.group(1), bodies, open + 1));
+            }
+        }
+        return most;
     }
 
     private static void isTrue(String what, boolean is) {
